@@ -402,7 +402,21 @@ public final class ModelTest {
         long upper = 0, lower = 1;
         final int[] found = new int[6];
 
+        State last = null;
+        List<int[]> lastDeeds = null;
+        int lastSize = 0;
+
+        /** Lists of deeds only grow or are made anew, so the same list of the same size leads to the same state. */
         State now() {
+            if (last == null || lastDeeds != deeds || lastSize != deeds.size()) {
+                last = playedAnew();
+                lastDeeds = deeds;
+                lastSize = deeds.size();
+            }
+            return last;
+        }
+
+        State playedAnew() {
             List<Integer> own = new ArrayList<>();
             List<Integer> borne = new ArrayList<>();
             for (int i = 0; i < 14; i++) {
