@@ -406,7 +406,7 @@ public final class CrossedRings {
         int bits = 0;
         for (int colour = 0; colour < COLOURS; colour++) {
             aside.takeBeads(live);
-            aside.colour[i] = colour;
+            aside.setColour(i, colour);
             if (showedAside(i, rows[r])) {
                 bits |= 1 << colour;
             }
@@ -698,8 +698,8 @@ public final class CrossedRings {
         int i = 0;
         for (int at = 0; at + 1 < text.size && i < BEADS; at++) {
             if (text.get(at) != BLANK) {
-                live.kind[i] = kindOfLetter(text.get(at));
-                live.colour[i] = text.get(at + 1) - FIGURE_NOUGHT;
+                live.setKind(i, kindOfLetter(text.get(at)));
+                live.setColour(i, text.get(at + 1) - FIGURE_NOUGHT);
                 i++;
                 at++;
             }
@@ -870,7 +870,7 @@ public final class CrossedRings {
         int bits = 0;
         for (int kind = 0; kind < KINDS; kind++) {
             aside.takeBeads(live);
-            aside.kind[i] = kind;
+            aside.setKind(i, kind);
             if (showedAside(i, pairs)) {
                 bits |= 1 << kind;
             }
@@ -897,7 +897,7 @@ public final class CrossedRings {
         int greatest = 0;
         for (int kind = 0; kind < KINDS; kind++) {
             if ((bits >> kind & 1) == 1) {
-                int part = partOfKind(i, kind, move);
+                int part = Math.floorMod(partOfKind(i, kind, move), parts.length);
                 parts[part]++;
                 greatest = Math.max(greatest, parts[part]);
             }
@@ -907,12 +907,12 @@ public final class CrossedRings {
 
     private int partOfKind(int i, int kind, int move) {
         aside.takeBeads(live);
-        aside.kind[i] = kind;
+        aside.setKind(i, kind);
         if (aside.bars(move)) {
             return COLOURS;
         }
         aside.makeMove(move);
-        return Math.floorMod(aside.showOf(i), COLOURS);
+        return aside.showOf(i);
     }
 
     // ---- by turns
@@ -1098,6 +1098,18 @@ public final class CrossedRings {
         void takeDeeds(Toy other) {
             System.arraycopy(other.deed, 0, deed, 0, DEEDS_MOST);
             deeds = other.deeds;
+        }
+
+        void setKind(int i, int v) {
+            if (i >= 0 && i < BEADS) {
+                kind[i] = v;
+            }
+        }
+
+        void setColour(int i, int v) {
+            if (i >= 0 && i < BEADS) {
+                colour[i] = v;
+            }
         }
 
         int beadIn(int c) {

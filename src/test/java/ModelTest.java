@@ -58,84 +58,15 @@ public final class ModelTest {
     }
 
     record Call(String name, int... args) {
-        long on(CrossedRings x) {
-            int[] a = args;
-            return switch (name) {
-                case "row" -> x.row(a[0], a[1]);
-                case "lay" -> x.lay(a[0], a[1], a[2]);
-                case "at" -> x.at(a[0], a[1]);
-                case "tear" -> x.tear(a[0]);
-                case "copy" -> x.copy(a[0], a[1], a[2], a[3], a[4]);
-                case "mean" -> x.mean(a[0]);
-                case "text" -> x.text(a[0], a[1]);
-                case "put" -> x.put(a[0], a[1], a[2]);
-                case "fault" -> x.fault(a[0]);
-                case "toy" -> x.toy(a[0]);
-                case "bead" -> x.bead(a[0], a[1]);
-                case "cell" -> x.cell(a[0], a[1]);
-                case "mark" -> x.mark(a[0], a[1]);
-                case "turn" -> x.turn(a[0]);
-                case "exchange" -> x.exchange(a[0], a[1]);
-                case "undo" -> x.undo(a[0]);
-                case "keep" -> x.keep(a[0]);
-                case "on" -> x.on(a[0]);
-                case "shows" -> x.shows(a[0], a[1], a[2], a[3]);
-                case "run" -> x.run(a[0], a[1]);
-                case "rounds" -> x.rounds(a[0]);
-                case "fewest" -> x.fewest(a[0], a[1], a[2]);
-                case "picture" -> x.picture(a[0], a[1]);
-                case "which" -> x.which(a[0]);
-                case "kinds" -> x.kinds(a[0], a[1]);
-                case "colours" -> x.colours(a[0], a[1]);
-                case "next" -> x.next(a[0], a[1]);
-                case "duel" -> x.duel(a[0]);
-                case "odds" -> x.odds(a[0], a[1], a[2], a[3]);
-                case "mid" -> x.mid(a[0], a[1], a[2]);
-                case "lots" -> x.lots(a[0], a[1]);
-                case "count" -> x.count(a[0]);
-                case "findings" -> x.findings(a[0]);
-                default -> throw new IllegalStateException(name);
-            };
-        }
-
-        long on(Model x) {
-            int[] a = args;
-            return switch (name) {
-                case "row" -> x.row(a[0], a[1]);
-                case "lay" -> x.lay(a[0], a[1], a[2]);
-                case "at" -> x.at(a[0], a[1]);
-                case "tear" -> x.tear(a[0]);
-                case "copy" -> x.copy(a[0], a[1], a[2], a[3], a[4]);
-                case "mean" -> x.mean(a[0]);
-                case "text" -> x.text(a[0], a[1]);
-                case "put" -> x.put(a[0], a[1], a[2]);
-                case "fault" -> x.fault(a[0]);
-                case "toy" -> x.toy(a[0]);
-                case "bead" -> x.bead(a[0], a[1]);
-                case "cell" -> x.cell(a[0], a[1]);
-                case "mark" -> x.mark(a[0], a[1]);
-                case "turn" -> x.turn(a[0]);
-                case "exchange" -> x.exchange(a[0], a[1]);
-                case "undo" -> x.undo(a[0]);
-                case "keep" -> x.keep(a[0]);
-                case "on" -> x.on(a[0]);
-                case "shows" -> x.shows(a[0], a[1], a[2], a[3]);
-                case "run" -> x.run(a[0], a[1]);
-                case "rounds" -> x.rounds(a[0]);
-                case "fewest" -> x.fewest(a[0], a[1], a[2]);
-                case "picture" -> x.picture(a[0], a[1]);
-                case "which" -> x.which(a[0]);
-                case "kinds" -> x.kinds(a[0], a[1]);
-                case "colours" -> x.colours(a[0], a[1]);
-                case "next" -> x.next(a[0], a[1]);
-                case "duel" -> x.duel(a[0]);
-                case "odds" -> x.odds(a[0], a[1], a[2], a[3]);
-                case "mid" -> x.mid(a[0], a[1], a[2]);
-                case "lots" -> x.lots(a[0], a[1]);
-                case "count" -> x.count(a[0]);
-                case "findings" -> x.findings(a[0]);
-                default -> throw new IllegalStateException(name);
-            };
+        /** The class and the model have the same methods, all of ints. */
+        long on(Object toy) {
+            Class<?>[] types = new Class<?>[args.length];
+            Arrays.fill(types, int.class);
+            try {
+                return (Integer) toy.getClass().getDeclaredMethod(name, types).invoke(toy, Arrays.stream(args).boxed().toArray());
+            } catch (ReflectiveOperationException e) {
+                throw new IllegalStateException(name, e);
+            }
         }
     }
 

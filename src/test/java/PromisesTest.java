@@ -253,16 +253,18 @@ public final class PromisesTest {
         x.turn(2);
         x.turn(2);
         x.exchange(0, 5);
+        x.keep(0);
         x.keep(1);
         due("toy(0)", x.toy(0), STATE);
         due("count(2)", x.count(2), 3);
-        due("count(11)", x.count(11), 1);
+        due("count(11)", x.count(11), 2);
         due("toy(1)", x.toy(1), 14);
         due("count(1)", x.count(1), 0);
         due("count(2)", x.count(2), 0);
         due("count(6)", x.count(6), 14);
         due("count(11)", x.count(11), 0);
         told("bead(10, 3)", x.bead(10, 3), 0);
+        refused("on(0)", x.on(0), NOTHING);
         refused("on(1)", x.on(1), NOTHING);
 
         begin(12);
@@ -334,6 +336,12 @@ public final class PromisesTest {
         x.exchange(x.bead(0, 2) == 1 ? x.asked() : 0, 4);
         due("mark(0, 5)", x.mark(0, 5), 1);
         due("mark(0, 3)", x.mark(0, 3), 1);
+        begin(14, MIXED);
+        int[] wears = {3, 2, 1, 4, 3, 2, 1, 4, 3};
+        for (int k = 0; k < wears.length; k++) {
+            x.turn(0);
+            due("mark(2, 2) behind " + (k + 1) + " turns", x.mark(2, 2), wears[k]);
+        }
     }
 
     static void deeds() {
@@ -454,6 +462,7 @@ public final class PromisesTest {
         due("shows(0, 0, 0, 100)", x.shows(0, 0, 0, 100), BAD);
         due("shows(0, 0, -1, 0)", x.shows(0, 0, -1, 0), BAD);
         due("shows(0, 0, 0, -1)", x.shows(0, 0, 0, -1), BAD);
+        due("shows(1, 0, 0, 0)", x.shows(1, 0, 0, 0), 2);
         due("shows(0, 0, 99, 99)", x.shows(0, 0, 99, 99), 1);
         due("shows(1, 0, 99, 99)", x.shows(1, 0, 99, 99), 1);
         due("shows(6, 4, 1, 0)", x.shows(6, 4, 1, 0), 0);
@@ -786,9 +795,18 @@ public final class PromisesTest {
         begin(30, "b0b1b2r3b4b5b6b7b8b9b0b1b2b3");
         fill(0, 0, 0);
         shares("odds(0, 0, 7, 3)", x.odds(0, 0, 7, 3), 15, 16);
+        fill(0, 0, 0, 1);
+        shares("odds(0, 0, 7, 3)", x.odds(0, 0, 7, 3), 15, 16);
+        shares("odds(0, 0, 7, 1)", x.odds(0, 0, 7, 1), 143, 144);
+        fill(0, 0, 0);
+        shares("odds(0, 0, 7, 3)", x.odds(0, 0, 7, 3), 15, 16);
         due("count(2)", x.count(2), 0);
         due("odds(0, 99, 7, 3)", x.odds(0, 99, 7, 3), BAD);
         due("lower()", x.lower(), 16);
+        begin(30, "s0b1b2b3b4b5b6b7b8b9b0b1b2b3");
+        fill(0, 2, 0);
+        shares("odds(0, 0, 7, 3)", x.odds(0, 0, 7, 3), 3, 4);
+        shares("odds(0, 0, 0, 1)", x.odds(0, 0, 0, 1), 1, 12);
 
         begin(31);
         due("mid(9, 0, 0)", x.mid(9, 0, 0), STATE);
@@ -959,5 +977,32 @@ public final class PromisesTest {
         due("digest()", x.digest(), before);
         x.mean(0);
         due("digest()", x.digest(), before);
+        wholeDigest();
+    }
+
+    static void wholeDigest() {
+        begin(39, MIXED);
+        x.turn(2);
+        x.keep(1);
+        x.exchange(0, 1);
+        fill(2, 5, -6);
+        x.put(0, 2, -7);
+        long h = 17;
+        for (int what = 0; what < 12; what++) h = 31 * h + x.count(what);
+        for (int i = 0; i < 14; i++) {
+            for (int what = 0; what < 5; what++) {
+                x.bead(i, what);
+                h = 31 * h + x.asked();
+            }
+        }
+        h = (h * 31 - 1) * 31 + 1;
+        h = h * 31 - 1;
+        h = (h * 31 - 1) * 31 - 1;
+        h = ((h * 31 + 2) * 31 + 5) * 31 - 6;
+        for (int r = 3; r < 6; r++) h = h * 31 - 1;
+        h = h * 31 + MIXED.length();
+        for (int i = 0; i < MIXED.length(); i++) h = h * 31 + (i == 2 ? -7 : MIXED.charAt(i));
+        for (int t = 1; t < 4; t++) h = h * 31 - 1;
+        due("digest()", x.digest(), h);
     }
 }
