@@ -897,9 +897,11 @@ public final class CrossedRings {
         int greatest = 0;
         for (int kind = 0; kind < KINDS; kind++) {
             if ((bits >> kind & 1) == 1) {
-                int part = Math.floorMod(partOfKind(i, kind, move), parts.length);
-                parts[part]++;
-                greatest = Math.max(greatest, parts[part]);
+                int part = partOfKind(i, kind, move);
+                if (part >= 0 && part < parts.length) {
+                    parts[part]++;
+                    greatest = Math.max(greatest, parts[part]);
+                }
             }
         }
         return greatest;
