@@ -449,6 +449,8 @@ public final class EdgesAsideTest {
         // Ring 1 is barred whatever bead 8 is: all six alike by each move.
         nextBy(STUCK, 8, 0, 6);
         nextBy(ROOTED, 8, 0, 6);
+        // Now bead 0 would show 5, or 0 if it is a glass one; but to make none is no move.
+        nextBy(Edge.but(ROOTED, 0, "b5"), 0, 0, 6);
         // Bead 4 is a root or is none: by ring 0 it is barred or not, by ring 1 4, 5, 4, barred, 5, barred.
         nextBy(ROOTED, 4, 2, 2);
         // Tinted or glass: ring 1 back, made now, brings it into cell 0, where they show unlike.
@@ -474,7 +476,7 @@ public final class EdgesAsideTest {
     }
 
     static void duel() {
-        Edge.sentence(29, "how much more CELLS 1, 2, 3, 5, 6, 7 SHOW together then than CELLS 8 to 13");
+        Edge.sentence(29, "how much more CELLS 1, 2, 3, 5, 6, 7 SHOW together then than CELLS 8 to 13, the first one wanting that to be much, the second little, told by asked(): 1.");
         for (int c = 0; c < 14; c++) {
             duelOf(Edge.but(Edge.NOUGHTS, c, "b9"), 0, c == 0 || c == 4 ? 0 : c < 8 ? 9 : -9);
         }
@@ -482,7 +484,7 @@ public final class EdgesAsideTest {
         duelOf("b0b9b9b9b0b9b9b9b0b0b0b0b0b0", 0, 54);
         duelOf("b0b0b0b0b0b0b0b0b9b9b9b9b9b9", 0, -54);
 
-        Edge.sentence(29, "By turns two make a MOVE that is not BARRED, or none, n (0 .. 3) times each, the first one begins");
+        Edge.sentence(29, "By turns two make a MOVE that is not BARRED, or none, n (0 .. 3) times each, the first one begins:");
         for (int n = 0; n <= 3; n++) {
             // All is barred: it stays as it is.
             duelOf(ROOTED, n, 24 - 23);

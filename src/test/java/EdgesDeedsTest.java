@@ -103,6 +103,15 @@ public final class EdgesDeedsTest {
     }
 
     static void fortyDeeds() {
+        Edge.sentence(0, "What is done: a MOVE (a TURN more), BEADS of two CELLS are EXCHANGED by hand.");
+        Edge.gives("turns, deeds behind a move", Edge.toy(Edge.PLAIN).then(Edge.turns(0)), x -> x.count(1) * 100 + x.count(2), 101);
+        Edge.gives("turns, deeds behind an exchange", Edge.toy(Edge.PLAIN).then(Edge.exchanges(1)), x -> x.count(1) * 100 + x.count(2), 1);
+        Edge.gives("turns, deeds behind three questions aside", Edge.toy(Edge.PLAIN).then(Edge.row(0, 2)).then(x -> {
+            x.run(0, 1);
+            x.duel(2);
+            x.mid(0, 0, 6);
+        }), x -> x.count(1) * 100 + x.count(2), 0);
+
         Edge.sentence(0, "These are DEEDS 0, 1, .. (40 at most).");
         Edge.Setup last = Edge.toy(Edge.PLAIN).then(Edge.exchanges(38)).then(Edge.turns(0));
         Edge.gives("count(2) behind 39", last, x -> x.count(2), 39);
@@ -286,6 +295,8 @@ public final class EdgesDeedsTest {
         lotExchanges(125, 13, 1);
         lotExchanges(64 * 13 + 56, 888 % 14, 13);
         lotExchanges(64 * 14 + 57, 953 % 14, 0);
+        lotExchanges(64 * 100 + 57, 6457 % 14, 100 % 14);
+        lotExchanges(64 * 33554427 + 62, 2147483390 % 14, 33554427 % 14);
         lotExchanges(2147483646, 0, 1);
         // 56 is cell 0 and cell 0, 127 is cell 1 and cell 1.
         for (int number : new int[] {56, 127}) {

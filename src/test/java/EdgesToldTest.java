@@ -13,6 +13,9 @@ public final class EdgesToldTest {
     }
 
     static void all() {
+        orderOfRefusals();
+        refusedInAFullObject();
+        sets();
         odds();
         oddsBarred();
         mid();
@@ -28,6 +31,80 @@ public final class EdgesToldTest {
         digestOfToys();
         lastCall();
         wildNumbers();
+    }
+
+    // ---- terms
+
+    static void orderOfRefusals() {
+        Edge.sentence(0, "Refused is, the first of these that fits, in this order: BAD -1 (a number that is none, or not as told), FULL -2, STATE -4 (not now), SPENT -6 (more than told), FINDING -3 (finding() tells which), unless a call says so otherwise. NONE -9.");
+        long[] constants = {CrossedRings.BAD, CrossedRings.FULL, CrossedRings.FINDING, CrossedRings.STATE, CrossedRings.SPENT, CrossedRings.NONE};
+        long[] values = {-1, -2, -3, -4, -6, -9};
+        for (int k = 0; k < values.length; k++) Edge.due("constant " + k, constants[k], values[k]);
+        // Each of these is refused for BAD and for a ground behind it.
+        Edge.Call[] both = {x -> x.row(6, -1), x -> x.lay(6, -1, 0), x -> x.at(-1, -1), x -> x.copy(-1, 0, 0, 0, -1), x -> x.text(4, -1), x -> x.put(4, -1, 0),
+            x -> x.keep(3), x -> x.on(3), x -> x.kinds(14, 2), x -> x.colours(14, 2), x -> x.next(14, 2), x -> x.mark(0, 6), x -> x.kinds(0, 6), x -> x.toy(4)};
+        for (int k = 0; k < both.length; k++) Edge.refuses("call " + k, Edge.NEW, both[k], Edge.BAD);
+    }
+
+    /** All is there that can be: six full rows, four full texts, 40 deeds, three toys kept, numbers told. */
+    static final Edge.Setup CROWDED = Edge.toy(Edge.but(Edge.PLAIN, 8, "t8", 4, "s4")).then(x -> {
+        x.turn(0);
+        x.keep(0);
+        x.turn(2);
+        x.exchange(3, 12);
+        x.keep(1);
+        x.lots(20, 11);
+        x.lots(17, 12);
+        x.keep(2);
+        for (int r = 0; r < 6; r++) {
+            x.row(r, 40);
+            x.lay(r, 39, 50 + r);
+        }
+        x.row(1, 2);
+        x.odds(1, 3, 4, 5);
+        x.row(1, 40);
+        for (int t = 0; t < 4; t++) {
+            x.text(t, 60);
+            x.put(t, 59, 'a' + t);
+        }
+        x.at(3, 39);
+    });
+
+    static void refusedInAFullObject() {
+        Edge.sentence(0, "What is refused changes nothing but finding(), findings().");
+        Edge.gives("count(2)", CROWDED, x -> x.count(2), 40);
+        Edge.gives("count(11)", CROWDED, x -> x.count(11), 3);
+        Edge.Call[] bad = {x -> x.row(0, 41), x -> x.lay(6, 0, 1), x -> x.at(6, 0), x -> x.tear(6), x -> x.copy(0, 0, 6, 0, 1), x -> x.mean(6), x -> x.text(0, 61), x -> x.put(4, 0, 1),
+            x -> x.fault(4), x -> x.toy(4), x -> x.bead(14, 0), x -> x.cell(0, 2), x -> x.mark(0, 0), x -> x.turn(4), x -> x.exchange(5, 5), x -> x.undo(41), x -> x.keep(3), x -> x.on(3),
+            x -> x.shows(0, 0, 100, 0), x -> x.run(0, 6), x -> x.rounds(6), x -> x.fewest(0, 10, 0), x -> x.picture(0, 6), x -> x.which(6), x -> x.kinds(0, 6), x -> x.colours(14, 0),
+            x -> x.next(14, 0), x -> x.duel(4), x -> x.odds(0, 0, 0, 13), x -> x.mid(0, 0, 13), x -> x.lots(21, 1), x -> x.count(12), x -> x.findings(6)};
+        for (int k = 0; k < bad.length; k++) Edge.refuses("call " + k, CROWDED, bad[k], Edge.BAD);
+        Edge.refuses("toy(0)", CROWDED, x -> x.toy(0), Edge.STATE);
+        Edge.refuses("exchange(0, 1)", CROWDED, x -> x.exchange(0, 1), Edge.FULL);
+        Edge.refuses("lots(1, 1)", CROWDED, x -> x.lots(1, 1), Edge.FULL);
+        Edge.Call[] sizes = {x -> x.row(0, -1), x -> x.text(0, -1), x -> x.copy(0, 0, 1, 0, -1), x -> x.run(0, 1), x -> x.rounds(0), x -> x.picture(0, 1), x -> x.which(0), x -> x.kinds(0, 0),
+            x -> x.colours(0, 0), x -> x.next(0, 0), x -> x.odds(0, 0, 0, 0), x -> x.mid(0, 0, 0)};
+        for (int k = 0; k < sizes.length; k++) Edge.finds("call " + k, CROWDED, sizes[k], Edge.SIZE);
+        Edge.Call[] beyond = {x -> x.lay(0, 40, 1), x -> x.at(0, 40), x -> x.put(0, 60, 1), x -> x.copy(0, 0, 1, 1, 40)};
+        for (int k = 0; k < beyond.length; k++) Edge.finds("call " + k, CROWDED, beyond[k], Edge.BEYOND);
+        Edge.finds("mark(0, 1)", CROWDED, x -> x.mark(0, 1), Edge.UNLIKE);
+    }
+
+    static void sets() {
+        Edge.sentence(0, "Sets (of MOVES 0 .. 3, of KINDS, of COLOURS 0 .. 9) are told by bits.");
+        int[] shown = {7, 1, 3, 8};
+        for (int m = 0; m < 4; m++) {
+            int move = m;
+            Edge.gives("which, move " + move, Edge.toy(Edge.PLAIN).then(Edge.row(2, Edge.with(Edge.repeat(14, -1), 0, shown[move]))), x -> x.which(2), 1 << move);
+        }
+        for (int k = 0; k < 10; k++) {
+            int colour = k;
+            Edge.gives("colours, " + colour, Edge.toy(Edge.PLAIN).then(Edge.row(2, 0, colour)), x -> x.colours(8, 2), 1 << colour);
+        }
+        Edge.gives("kinds, bead 8 seen to be tinted or glass", Edge.toy(Edge.PLAIN).then(Edge.row(2, 2, 9)), x -> x.kinds(8, 2), 1 << 1 | 1 << 4);
+        Edge.gives("kinds, all", Edge.toy(Edge.PLAIN).then(Edge.row(2)), x -> x.kinds(8, 2), 63);
+        Edge.gives("count(3), ring 1", Edge.toy(STUCK), x -> x.count(3), 1 << 1);
+        Edge.gives("count(3), both", Edge.toy(ROOTED), x -> x.count(3), 1 | 1 << 1);
     }
 
     // ---- 7 chances

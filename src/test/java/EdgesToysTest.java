@@ -58,7 +58,7 @@ public final class EdgesToysTest {
         }
         faultIn("b01b1" + Edge.PLAIN.substring(4), 2);
 
-        Edge.sentence(0, "A FAULT is the first place at which it can't go on so");
+        Edge.sentence(0, "A FAULT is the first place at which it can't go on so (a letter, a figure that is none such,");
         faultIn("b0x1y2", 2);
         faultIn("b0bx?", 3);
         faultIn("x", 0);
@@ -107,6 +107,17 @@ public final class EdgesToysTest {
             Edge.tells("bead(" + i + ", 0)", there, x -> x.bead(i, 0), "btwsgr".indexOf(ALL_KINDS.charAt(2 * i)));
             Edge.tells("bead(" + i + ", 2)", there, x -> x.bead(i, 2), i);
             Edge.tells("cell(" + i + ", 0)", there, x -> x.cell(i, 0), i);
+        }
+
+        Edge.sentence(0, "A TOY (without BEADS at first) is a TEXT:");
+        Edge.gives("count(0) of a new object", Edge.NEW, x -> x.count(0), 0);
+        Edge.gives("count(0) with a text alone", Edge.text(0, Edge.PLAIN), x -> x.count(0), 0);
+        Edge.gives("count(0) with a toy", Edge.toy(Edge.PLAIN), x -> x.count(0), 14);
+
+        Edge.sentence(0, "CELLS 0 and 4 are CROSSINGS.");
+        for (int k = 0; k < 14; k++) {
+            int c = k;
+            Edge.gives("a glass one in cell " + c, Edge.toy(Edge.but(Edge.NOUGHTS, c, "g5")), x -> x.mark(c, 4), c == 0 || c == 4 ? 1 : 0);
         }
 
         Edge.sentence(0, "No TURNS were made at first, no BEAD was BORNE.");
